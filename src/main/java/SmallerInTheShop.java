@@ -1171,9 +1171,9 @@ public final class SmallerInTheShop {
                 return;
             }
             for (int line = 1; line <= LINE_LIMIT; line++) {
-                for (int turn = 0; turn < turnsToTry(here) && sheet.canFold(depth, line); turn++) {
-                    int more = sheet.tryFold(depth, line, turn);
-                    explore(sheet, depth + 1, effort + more, 100 * way + 10 * line + turn);
+                for (int how = 0; how < waysToTry(here) && sheet.canFold(depth, line); how++) {
+                    int more = sheet.tryFold(depth, line, how);
+                    explore(sheet, depth + 1, effort + more, 100 * way + 10 * line + how);
                 }
             }
         }
@@ -1184,7 +1184,7 @@ public final class SmallerInTheShop {
          * first way of several never has them. Only an order of layers knows which side is up, and for that
          * it is enough that the last fold can turn it.
          */
-        private int turnsToTry(Layout here) {
+        private int waysToTry(Layout here) {
             return goal == LAYERED && here.cells() == 2 ? WAY_COUNT : WAY_COUNT / 2;
         }
 
@@ -1238,7 +1238,7 @@ public final class SmallerInTheShop {
     /** The letters of a map that is being told. */
     private static final class Letters {
 
-        private final char[] signs = new char[LETTER_LIMIT];
+        private final int[] signs = new int[LETTER_LIMIT];
         private int size;
 
         Letters() {
@@ -1251,7 +1251,7 @@ public final class SmallerInTheShop {
 
         int addLetter(int c) {
             if (size < LETTER_LIMIT) {
-                signs[size] = (char) c;
+                signs[size] = c;
                 size++;
             }
             return size;
@@ -1261,7 +1261,7 @@ public final class SmallerInTheShop {
             size = 0;
         }
 
-        char signAt(int place) {
+        int signAt(int place) {
             return place >= 0 && place < size ? signs[place] : 0;
         }
 
@@ -1270,7 +1270,7 @@ public final class SmallerInTheShop {
         }
 
         int kindAt(int place) {
-            return KIND_LETTERS.indexOf(signAt(place));
+            return KIND_LETTERS.indexOf((char) signAt(place));
         }
 
         int lengthBehind(int place) {
@@ -1298,7 +1298,7 @@ public final class SmallerInTheShop {
         }
 
         /** What stands behind the first letter of a statement: 0 a digit, k a kind's letter. */
-        private static String shapeBehind(char head) {
+        private static String shapeBehind(int head) {
             switch (head) {
                 case 'k':
                     return "0k0;";
@@ -1315,20 +1315,18 @@ public final class SmallerInTheShop {
             }
         }
 
-        private static boolean fits(char sign, char form) {
-            switch (form) {
-                case '0':
-                    return sign >= '0' && sign <= '9';
-                case 'k':
-                    return KIND_LETTERS.indexOf(sign) >= 0;
-                default:
-                    return sign == form;
+        private static boolean fits(int sign, char form) {
+            if (form == '0') {
+                return sign >= '0' && sign <= '9';
             }
+            return form == 'k' ? KIND_LETTERS.indexOf((char) sign) >= 0 : sign == form;
         }
     }
 
     /** The draws of the maps by lot. */
     private static final class Draws {
+
+        private static final int WITHOUT_SIGN = 0x7fffffff;
 
         private int seed;
         /** Of the map by lot now: which layout it has reached. */
@@ -1341,7 +1339,7 @@ public final class SmallerInTheShop {
 
         int drawBelow(int bound) {
             seed = seed * 1664525 + 1013904223;
-            return bound < 1 ? 0 : (seed & Integer.MAX_VALUE) / 256 % bound;
+            return bound < 1 ? 0 : (seed & WITHOUT_SIGN) / 256 % bound;
         }
     }
 }
