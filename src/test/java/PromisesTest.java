@@ -856,6 +856,13 @@ public final class PromisesTest {
         due("cover inside", x.lots(1, 0, 1), 0);
         x.turn(6, 2, 9);
         due("crease 6 on the mountain", x.lots(1, 0, 0), 39);
+        x.turn(3, 2, 9);
+        x.turn(4, 2, 9);
+        x.turn(2, 2, 9);
+        due("creases 6, 3, 4, 2 on the mountain, each by its draw", x.lots(1, 0, 0), 66);
+        x.turn(3, 0, 0);
+        x.turn(4, 0, 0);
+        x.turn(2, 0, 0);
         x.turn(6, 1, 9);
         due("crease 6 on the mountain", x.lots(1, 0, 0), 30);
         due("nothing changed", x.count(0) + x.count(1), 0);
