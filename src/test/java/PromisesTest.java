@@ -1,10 +1,5 @@
 /** Each promise by answers worked out by hand from the document: ordinary, at the edges, refused. */
-public final class PromisesTest {
-    private static final long REFUSED = 4000000000000000000L;
-    private static int wrong = 0;
-    private static int promise = 0;
-    private static int checks = 0;
-
+public final class PromisesTest extends Due {
     public static void main(String[] args) {
         aNewObject();
         letter();
@@ -43,32 +38,7 @@ public final class PromisesTest {
         imageAndOn();
         count();
         extremes();
-        System.out.println(wrong == 0 ? "all " + checks + " answers are as due" : wrong + " answers are not as due");
-        if (wrong != 0) {
-            System.exit(1);
-        }
-    }
-
-    private static void due(String what, long got, long want) {
-        checks++;
-        if (got != want) {
-            wrong++;
-            System.out.println("promise " + promise + ": " + what + " answered " + got + ", due is " + want);
-        }
-    }
-
-    private static int tell(SmallerInTheShop x, String text) {
-        for (char c : text.toCharArray()) {
-            x.letter(c);
-        }
-        return x.map();
-    }
-
-    private static void tellRow(SmallerInTheShop x, int... numbers) {
-        x.clear();
-        for (int number : numbers) {
-            x.row(number);
-        }
+        end();
     }
 
     /** The stack of a shut wad, uppermost first, as digits. */
@@ -85,7 +55,7 @@ public final class PromisesTest {
     }
 
     private static void aNewObject() {
-        promise = 1;
+        about("promise 1");
         SmallerInTheShop x = new SmallerInTheShop();
         for (int p = 0; p < 8; p++) {
             due("column of " + p, x.panel(p, 0), p % 4);
@@ -104,7 +74,7 @@ public final class PromisesTest {
     }
 
     private static void letter() {
-        promise = 2;
+        about("promise 2");
         SmallerInTheShop x = new SmallerInTheShop();
         due("letter(0)", x.letter(0), 1);
         due("letter(255)", x.letter(255), 2);
@@ -121,7 +91,7 @@ public final class PromisesTest {
     }
 
     private static void mapTakesStatements() {
-        promise = 3;
+        about("promise 3");
         SmallerInTheShop x = new SmallerInTheShop();
         due("all statements", tell(x, "k9s7;w912;f20;f10;o;c7;"), 6);
         due("kind", x.crease(9, 0), 3);
@@ -149,7 +119,7 @@ public final class PromisesTest {
     }
 
     private static void mapFaults() {
-        promise = 3;
+        about("promise 3");
         String[] texts = {"", "x", ";", "k", "kx", "k0", "k0q", "k0c", "k0cx", "k0c0", "k0c0x", "K0c0;", "w0", "w01", "w012",
             "w0123", "w0a2;", "f1", "f10", "f100", "fa", "o", "ox", "o1", "c", "c1", "c11", "cc", "o;;", "c1;x", "c9;x",
             "f99;k"};
@@ -173,7 +143,7 @@ public final class PromisesTest {
     }
 
     private static void crease() {
-        promise = 4;
+        about("promise 4");
         SmallerInTheShop x = new SmallerInTheShop();
         // kind, figure, worn, effort on the mountain side, on the valley side
         int[][] cases = {{0, 9, 50, 3, 3}, {1, 4, 50, 3, 7}, {2, 4, 50, 7, 3}, {3, 4, 9, 3, 7}, {3, 4, 10, 7, 3}, {3, 4, 99, 7, 3},
@@ -200,7 +170,7 @@ public final class PromisesTest {
     }
 
     private static void panel() {
-        promise = 5;
+        about("promise 5");
         SmallerInTheShop x = new SmallerInTheShop();
         x.fold(2, 1);
         // the left half goes under: panel 1 comes under 2, panel 0 under 3
@@ -223,7 +193,7 @@ public final class PromisesTest {
     }
 
     private static void foldOver() {
-        promise = 6;
+        about("promise 6");
         SmallerInTheShop x = new SmallerInTheShop();
         due("fold(1, 0)", x.fold(1, 0), 6);
         due("width", x.wad(0), 3);
@@ -244,7 +214,7 @@ public final class PromisesTest {
     }
 
     private static void foldUnderAndGreaterPart() {
-        promise = 6;
+        about("promise 6");
         SmallerInTheShop x = new SmallerInTheShop();
         due("fold(3, 1)", x.fold(3, 1), 6);
         due("the greater part goes under", x.over(3, 2), 1);
@@ -268,7 +238,7 @@ public final class PromisesTest {
     }
 
     private static void foldRows() {
-        promise = 6;
+        about("promise 6");
         int[] over = {1, 0, 0, 1};
         int[] downs = {0, 0, 1, 1};
         int[] sides = {2, 1, 2, 1};
@@ -295,7 +265,7 @@ public final class PromisesTest {
     }
 
     private static void foldEffortAndWear() {
-        promise = 6;
+        about("promise 6");
         SmallerInTheShop x = new SmallerInTheShop();
         x.turn(1, 1, 5);
         x.turn(4, 5, 6);
@@ -330,7 +300,7 @@ public final class PromisesTest {
     }
 
     private static void opens() {
-        promise = 7;
+        about("promise 7");
         SmallerInTheShop x = new SmallerInTheShop();
         due("nothing to open", x.opens(), -3);
         x.fold(3, 0);
@@ -353,7 +323,7 @@ public final class PromisesTest {
     }
 
     private static void wears() {
-        promise = 8;
+        about("promise 8");
         SmallerInTheShop x = new SmallerInTheShop();
         due("wears(9, 99)", x.wears(9, 99), 0);
         due("wears(9, 0)", x.wears(9, 0), 99);
@@ -367,7 +337,7 @@ public final class PromisesTest {
     }
 
     private static void turn() {
-        promise = 9;
+        about("promise 9");
         SmallerInTheShop x = new SmallerInTheShop();
         x.wears(3, 12);
         due("turn(3, 5, 9)", x.turn(3, 5, 9), 0);
@@ -383,7 +353,7 @@ public final class PromisesTest {
     }
 
     private static void cover() {
-        promise = 10;
+        about("promise 10");
         SmallerInTheShop x = new SmallerInTheShop();
         due("cover(7)", x.cover(7), 0);
         due("cover(3)", x.cover(3), 7);
@@ -393,7 +363,7 @@ public final class PromisesTest {
     }
 
     private static void hurts() {
-        promise = 11;
+        about("promise 11");
         SmallerInTheShop x = new SmallerInTheShop();
         x.turn(1, 1, 5);
         due("effort", x.hurts(2, 0, 0), 11);
@@ -417,7 +387,7 @@ public final class PromisesTest {
     }
 
     private static void over() {
-        promise = 12;
+        about("promise 12");
         SmallerInTheShop x = new SmallerInTheShop();
         due("beside one another", x.over(0, 1), 0);
         x.fold(2, 0);
@@ -437,7 +407,7 @@ public final class PromisesTest {
     }
 
     private static void wad() {
-        promise = 13;
+        about("promise 13");
         SmallerInTheShop x = new SmallerInTheShop();
         int[] flat = {4, 2, 1, 255, 1, 0, 1023};
         for (int what = 0; what < 7; what++) {
@@ -462,7 +432,7 @@ public final class PromisesTest {
     }
 
     private static void shut() {
-        promise = 14;
+        about("promise 14");
         SmallerInTheShop x = new SmallerInTheShop();
         due("way", x.shut(0), 201141);
         due("effort", x.shut(1), 30);
@@ -489,7 +459,7 @@ public final class PromisesTest {
     }
 
     private static void ways() {
-        promise = 15;
+        about("promise 15");
         SmallerInTheShop x = new SmallerInTheShop();
         due("ways(0)", x.ways(0), 0);
         due("ways(1)", x.ways(1), 0);
@@ -510,7 +480,7 @@ public final class PromisesTest {
     }
 
     private static void up() {
-        promise = 16;
+        about("promise 16");
         SmallerInTheShop x = new SmallerInTheShop();
         due("both are read", x.up(0, 1, 8, 0), 0);
         due("without effort", x.up(0, 1, 8, 1), 0);
@@ -534,7 +504,7 @@ public final class PromisesTest {
     }
 
     private static void most() {
-        promise = 17;
+        about("promise 17");
         SmallerInTheShop x = new SmallerInTheShop();
         due("all", x.most(255, 8, 0), 8);
         due("as it lies", x.most(255, 8, 1), 0);
@@ -556,7 +526,7 @@ public final class PromisesTest {
     }
 
     private static void layers() {
-        promise = 18;
+        about("promise 18");
         SmallerInTheShop x = new SmallerInTheShop();
         due("no row", x.layers(), -9);
         tellRow(x, 4, 7, 6, 5, 1, 2, 3, 0);
@@ -587,7 +557,7 @@ public final class PromisesTest {
     }
 
     private static void lasts() {
-        promise = 19;
+        about("promise 19");
         SmallerInTheShop x = new SmallerInTheShop();
         due("2 a time", x.lasts(1, 0), 20);
         due("2 a time", x.lasts(4, 2), 20);
@@ -616,7 +586,7 @@ public final class PromisesTest {
     }
 
     private static void tape() {
-        promise = 20;
+        about("promise 20");
         SmallerInTheShop x = new SmallerInTheShop();
         due("the least of two", x.tape(1, 0), 0);
         x.turn(3, 1, 0);
@@ -639,7 +609,7 @@ public final class PromisesTest {
     }
 
     private static void first() {
-        promise = 21;
+        about("promise 21");
         SmallerInTheShop x = new SmallerInTheShop();
         due("alike", x.first(2, 0, 4, 0), -9);
         // crease 1 is a valley when 2 goes first, a mountain when the row has been turned over ahead of it
@@ -659,7 +629,7 @@ public final class PromisesTest {
     }
 
     private static void hole() {
-        promise = 22;
+        about("promise 22");
         SmallerInTheShop x = new SmallerInTheShop();
         x.wears(1, 10);
         x.wears(4, 10);
@@ -682,7 +652,7 @@ public final class PromisesTest {
     }
 
     private static void weakest() {
-        promise = 23;
+        about("promise 23");
         SmallerInTheShop x = new SmallerInTheShop();
         due("of several the least", x.weakest(0), 0);
         due("nothing worn", x.weakest(1), 0);
@@ -706,7 +676,7 @@ public final class PromisesTest {
     }
 
     private static void wind() {
-        promise = 24;
+        about("promise 24");
         SmallerInTheShop x = new SmallerInTheShop();
         dueWind(x, 20, 1, 1);
         tellRow(x, 20);
@@ -748,7 +718,7 @@ public final class PromisesTest {
     }
 
     private static void mean() {
-        promise = 25;
+        about("promise 25");
         SmallerInTheShop x = new SmallerInTheShop();
         int[][] cases = {{0, 0, 1}, {7, 7, 10}, {15, 3, 2}, {10, 1, 1}, {98, 49, 5}, {90, 9, 1}};
         for (int[] c : cases) {
@@ -766,7 +736,7 @@ public final class PromisesTest {
     }
 
     private static void whatIs() {
-        promise = 26;
+        about("promise 26");
         SmallerInTheShop x = new SmallerInTheShop();
         due("nothing told, nothing shut out", x.whatIs(0, 0), 63);
         due("nothing told, nothing shut out", x.whatIs(0, 1), 1023);
@@ -796,7 +766,7 @@ public final class PromisesTest {
     }
 
     private static void row() {
-        promise = 27;
+        about("promise 27");
         SmallerInTheShop x = new SmallerInTheShop();
         due("row(0)", x.row(0), 1);
         due("row(99)", x.row(99), 2);
@@ -811,7 +781,7 @@ public final class PromisesTest {
     }
 
     private static void judge() {
-        promise = 28;
+        about("promise 28");
         SmallerInTheShop x = new SmallerInTheShop();
         due("nothing told", x.judge(), -9);
         tellRow(x, 20, 10, 41);
@@ -837,7 +807,7 @@ public final class PromisesTest {
     }
 
     private static void clear() {
-        promise = 29;
+        about("promise 29");
         SmallerInTheShop x = new SmallerInTheShop();
         due("none", x.clear(), 0);
         tellRow(x, 1, 2, 3);
@@ -847,7 +817,7 @@ public final class PromisesTest {
     }
 
     private static void lots() {
-        promise = 30;
+        about("promise 30");
         SmallerInTheShop x = new SmallerInTheShop();
         // every crease is folded once behind all folds, each with 3
         due("one map", x.lots(1, 0, 0), 30);
@@ -880,7 +850,7 @@ public final class PromisesTest {
     }
 
     private static void imageAndOn() {
-        promise = 31;
+        about("promise 31");
         SmallerInTheShop x = new SmallerInTheShop();
         due("no image", x.on(), -3);
         x.turn(2, 5, 4);
@@ -895,7 +865,7 @@ public final class PromisesTest {
         x.turn(2, 1, 1);
         x.wears(2, 1);
         x.cover(0);
-        promise = 32;
+        about("promise 32");
         due("on", x.on(), 2);
         due("width", x.wad(0), 2);
         due("kind and figure", x.turn(2, 5, 4), 54);
@@ -919,7 +889,7 @@ public final class PromisesTest {
     }
 
     private static void count() {
-        promise = 33;
+        about("promise 33");
         SmallerInTheShop x = new SmallerInTheShop();
         x.fold(2, 1);
         x.cover(5);
@@ -945,7 +915,7 @@ public final class PromisesTest {
     }
 
     private static void extremes() {
-        promise = 0;
+        about("any numbers");
         int[] ends = {Integer.MIN_VALUE, Integer.MIN_VALUE + 1, -1, 0, 1, Integer.MAX_VALUE - 1, Integer.MAX_VALUE};
         for (int a : ends) {
             for (int b : ends) {
